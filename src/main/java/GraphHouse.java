@@ -1448,11 +1448,12 @@ public final class GraphHouse {
             int v = tightest(near, piece);
             int bit = 1 << v;
             int beside = besides(near, piece);
-            boolean fresh = false;
-            // colours that touch the piece nowhere are all alike: one of them is enough
-            for (int c = 0; c < limit && !fresh; c++) {
-                if ((classes[c] & near[v]) == 0) {
-                    fresh = (classes[c] & beside) == 0;
+            boolean tried = false;
+            for (int c = 0; c < limit; c++) {
+                // colours that touch the piece nowhere are all alike: one of them is enough
+                boolean fresh = (classes[c] & beside) == 0;
+                if ((classes[c] & near[v]) == 0 && !(fresh && tried)) {
+                    tried |= fresh;
                     classes[c] |= bit;
                     if (fill(near, piece & ~bit, depth + 1)) {
                         return true;

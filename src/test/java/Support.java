@@ -83,6 +83,8 @@ final class Support {
         final GraphHouse h = new GraphHouse();
         final List<Integer> labels = new ArrayList<>();
         final int[][] arcs = new int[160][];
+        private final int[][] joined = new int[32][32];
+        private String told;
 
         int n() {
             return labels.size();
@@ -99,8 +101,29 @@ final class Support {
                 p++;
             }
             arcs[p] = new int[] {from, to, weight, room, kind};
+            join(p, 1);
             due("arc", h.arc(from, to, weight, room, kind), p);
             return p;
+        }
+
+        void take(int p) {
+            join(p, -1);
+            arcs[p] = null;
+            h.take(p);
+        }
+
+        private void join(int p, int more) {
+            told = null;
+            if (joint(p)) {
+                joined[arcs[p][0]][arcs[p][1]] += more;
+                joined[arcs[p][1]][arcs[p][0]] += more;
+            }
+        }
+
+        @Override
+        public String toString() {
+            told = told == null ? printOf(h) : told;
+            return told;
         }
 
         boolean joint(int p) {
@@ -108,18 +131,12 @@ final class Support {
         }
 
         boolean near(int u, int v) {
-            return u != v && (between(u, v) > 0);
+            return joined[u][v] > 0;
         }
 
         /** How many joints there are between two nodes. */
         int between(int u, int v) {
-            int count = 0;
-            for (int p = 0; p < 160; p++) {
-                if (joint(p) && (arcs[p][0] == u && arcs[p][1] == v || arcs[p][0] == v && arcs[p][1] == u)) {
-                    count++;
-                }
-            }
-            return count;
+            return joined[u][v];
         }
 
         int joints() {
@@ -142,8 +159,7 @@ final class Support {
             if (d.below(6) == 0) {
                 int p = d.below(i + 1);
                 if (m.arcs[p] != null) {
-                    m.arcs[p] = null;
-                    m.h.take(p);
+                    m.take(p);
                 }
             }
         }
