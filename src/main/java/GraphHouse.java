@@ -16,7 +16,7 @@ public final class GraphHouse {
     private static final int LETTERS = 26;
     private static final int MILLION = 1000000;
     private static final long PRIME = 1000000007L;
-    private static final long FAR = Long.MAX_VALUE;
+    private static final long FAR = 9223372036854775807L;
 
     private final Ledger ledger;
     private final Graph shown;
@@ -1008,10 +1008,11 @@ public final class GraphHouse {
 
         /** Costs from all nodes to t, and the nodes from which they fall without end. */
         private void measure(Graph g, int t) {
+            // also when all is known: the same version may be asked of another graph, whose rows are used then
+            g.tie();
             if (farFor == g.version && farTo == t) {
                 return;
             }
-            g.tie();
             farFor = g.version;
             farTo = t;
             Arrays.fill(far, FAR);
@@ -1395,21 +1396,23 @@ public final class GraphHouse {
         int colourOf(Graph g, int v) {
             if (colourFor != g.version) {
                 colourFor = g.version;
-                limit = Math.max(1, Integer.bitCount(greatestClique(g)));
                 makeColours(g);
             }
             return result[v];
         }
 
         private void makeColours(Graph g) {
+            g.tie();
+            limit = Math.max(1, Integer.bitCount(greatestClique(g)));
             asideCount = 0;
             Arrays.fill(classes, 0);
             while (limit < NODES && !fill(g.near, g.allNodes(), 0)) {
                 limit++;
             }
-            lessen(g);
+            int used = 0;
             for (int v = 0; v < g.nodes; v++) {
-                result[v] = classOf(v);
+                result[v] = lessen(g, v, used);
+                used = Math.max(used, result[v] + 1);
             }
         }
 
@@ -1513,7 +1516,7 @@ public final class GraphHouse {
 
         private int tightest(int[] near, int piece) {
             int best = lowest(piece);
-            int bestScore = Integer.MAX_VALUE;
+            int bestScore = NODES * NODES * NODES;
             for (int rest = piece; rest != 0; rest &= rest - 1) {
                 int v = lowest(rest);
                 int score = freeColours(near[v]) * 64 - Integer.bitCount(near[v] & piece);
@@ -1525,24 +1528,21 @@ public final class GraphHouse {
             return best;
         }
 
-        /** Makes the colouring the least one, node by node. */
-        private void lessen(Graph g) {
-            int used = 0;
-            for (int v = 0; v < g.nodes; v++) {
-                int own = classOf(v);
-                if (own > used) {
-                    int kept = classes[own];
-                    classes[own] = classes[used];
-                    classes[used] = kept;
-                    own = used;
-                }
-                for (int c = 0; c < own; c++) {
-                    if (canLower(g, v, c, own)) {
-                        own = c;
-                    }
-                }
-                used = Math.max(used, own + 1);
+        /** Makes the colour of v the least that can be, if those before it keep theirs, of which so many are used. */
+        private int lessen(Graph g, int v, int used) {
+            int own = classOf(v);
+            if (own > used) {
+                int kept = classes[own];
+                classes[own] = classes[used];
+                classes[used] = kept;
+                own = used;
             }
+            for (int c = 0; c < own; c++) {
+                if (canLower(g, v, c, own)) {
+                    own = c;
+                }
+            }
+            return own;
         }
 
         /** Gives v the colour c instead of own, if those before it can keep theirs. */
@@ -1643,7 +1643,7 @@ public final class GraphHouse {
         }
 
         private int push(int s, int t) {
-            int most = Integer.MAX_VALUE;
+            int most = PLACES * MILLION;
             int v = t;
             for (int i = 0; i < NODES && v != s; i++) {
                 most = Math.min(most, left[via[v] * NODES + v]);
