@@ -506,6 +506,17 @@ public final class GraphHouse {
             return count;
         }
 
+        /** Puts into a row how many joints each node has. */
+        void countJoints(int[] degrees) {
+            Arrays.fill(degrees, 0);
+            for (int p = 0; p < top; p++) {
+                if (isJoint(p)) {
+                    degrees[from[p]]++;
+                    degrees[to[p]]++;
+                }
+            }
+        }
+
         int valueOf(int p, int what) {
             if (what == 0) {
                 return weight[p];
@@ -878,7 +889,7 @@ public final class GraphHouse {
         private void readNumber(boolean minus, int mostDigits) {
             int digits = 0;
             int sum = 0;
-            for (at = minus ? at + 1 : at; isDigit(at); at++) {
+            for (at = minus ? at + 1 : at; at < length && isDigit(at); at++) {
                 digits++;
                 if (digits <= mostDigits) {
                     sum = sum * 10 + (text[at] - '0');
@@ -1289,13 +1300,7 @@ public final class GraphHouse {
             g.tie();
             int rest = g.allNodes();
             int core = 0;
-            Arrays.fill(degrees, 0);
-            for (int p = 0; p < g.top; p++) {
-                if (g.isJoint(p)) {
-                    degrees[g.from[p]]++;
-                    degrees[g.to[p]]++;
-                }
-            }
+            g.countJoints(degrees);
             for (int i = 0; i < g.nodes; i++) {
                 int v = loosest(rest);
                 core = Math.max(core, degrees[v]);
@@ -2099,13 +2104,7 @@ public final class GraphHouse {
         private void begin(Graph g) {
             g.tie();
             joints = g.joints();
-            Arrays.fill(degrees, 0);
-            for (int p = 0; p < g.top; p++) {
-                if (g.isJoint(p)) {
-                    degrees[g.from[p]]++;
-                    degrees[g.to[p]]++;
-                }
-            }
+            g.countJoints(degrees);
             Arrays.fill(members, 0);
             for (int v = 0; v < g.nodes; v++) {
                 home[v] = v;
@@ -2234,7 +2233,7 @@ public final class GraphHouse {
             return depth == 0 || r.accuse(2, r.length);
         }
 
-        private static int judge(char c, boolean behindAtom, int depth) {
+        private static int judge(int c, boolean behindAtom, int depth) {
             switch (c) {
                 case '*':
                 case '+':
@@ -2251,7 +2250,7 @@ public final class GraphHouse {
             }
         }
 
-        private static boolean isAtom(char c) {
+        private static boolean isAtom(int c) {
             return c == '.' || c >= 'a' && c <= 'z';
         }
 
@@ -2399,7 +2398,7 @@ public final class GraphHouse {
         private static final String NAMES = "xnldirsmg";
         private static final int NAME = 1000000;
         private static final int SIGNS = 1000100;
-        private static final int NEGATE = 1000100 + '~';
+        private static final int NEGATE = SIGNS + '~';
 
         /** Numbers stand for themselves, names and signs behind them; operands come first. */
         private final int[] code = new int[MOST];
