@@ -19,6 +19,10 @@ public final class FlowsTest {
             Support.Dice d = new Support.Dice(seed);
             costs(Support.byDice(d, d.from(2, 4), d.from(1, 7), -4, 4, 2));
         }
+        for (int seed = 0; seed < 25; seed++) {
+            Support.Dice d = new Support.Dice(seed);
+            span(Support.byDice(d, d.from(20, 32), d.from(25, 160), -3, 3, 3));
+        }
         bigCosts();
         bigCounts();
         bigPairs();

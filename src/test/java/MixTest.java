@@ -28,6 +28,9 @@ public final class MixTest {
         for (int seed = 0; seed < 1500; seed++) {
             twins(new Support.Dice(seed));
         }
+        for (int seed = 0; seed < 30; seed++) {
+            fullHouse(new Support.Dice(seed));
+        }
         Support.finish("MixTest");
     }
 
@@ -132,6 +135,45 @@ public final class MixTest {
         int other = plain.way((int) ends[0], (int) ends[1], 0);
         Support.due(m + " way", place < 0 ? "none" : m.h.told(place, 1) + " " + m.h.told(place, 2) + " " + m.h.told(place, 3),
             other < 0 ? "none" : plain.told(other, 1) + " " + plain.told(other, 2) + " " + plain.told(other, 3));
+    }
+
+    /** 32 nodes and 160 arcs: good arguments throw nothing, and a second object answers the same. */
+    private static void fullHouse(Support.Dice d) throws Exception {
+        GraphHouse[] both = {new GraphHouse(), new GraphHouse()};
+        int close = d.from(4, 32);
+        for (GraphHouse h : both) {
+            for (int i = 0; i < 32; i++) {
+                h.node(i * 5 % 26);
+            }
+            adopt(h, new String[] {"(a|b.)*(c?a)+", "n;s+m"});
+        }
+        for (int i = 0; i < 160; i++) {
+            int u = 31 - d.below(close);
+            int v = 31 - d.below(close);
+            int weight = d.from(-2, 9);
+            int room = d.below(9);
+            int kind = d.below(3);
+            for (GraphHouse h : both) {
+                Support.due("place", h.arc(u, v, weight, room, kind), i);
+            }
+        }
+        both[1].view(192);
+        for (String name : ASKED) {
+            Method m = method(name);
+            for (int i = 0; i < 10; i++) {
+                Object[] args = arguments(m, d, new int[] {31, 30, 29, 31 - close / 2, 0, 1});
+                if (name.equals("run")) {
+                    args = new Object[] {d.below(20), d.from(1, 4), d.below(91), (long) i};
+                }
+                String got = outcome(both[0], m, args);
+                Support.due(name + java.util.Arrays.toString(args), outcome(both[1], m, args), got);
+                Support.due(name + " throws " + got, got.endsWith("Error") || got.endsWith("Exception")
+                    && !got.equals("IllegalArgumentException"), false);
+            }
+        }
+        for (GraphHouse h : both) {
+            Support.due("last ones", h.span(159) || h.bridge(159) || h.part(1, 31) >= 0, true);
+        }
     }
 
     private static void adopt(GraphHouse h, String[] texts) {

@@ -16,6 +16,14 @@ public final class PartsTest {
             colours(m);
             figures(m);
         }
+        for (int seed = 0; seed < 25; seed++) {
+            Support.Dice d = new Support.Dice(seed);
+            Support.Mirror m = Support.byDice(d, d.from(20, 32), d.from(25, 160), -3, 3, 3);
+            parts(m);
+            bigClique(m);
+            bigCores(m);
+            figures(m);
+        }
         orders();
         bigColours();
         fullGraph();
@@ -181,6 +189,73 @@ public final class PartsTest {
         }
     }
 
+    /** All cliques, one by one. */
+    private static void bigClique(Support.Mirror m) {
+        List<Integer> best = new ArrayList<>();
+        allCliques(m, 0, new ArrayList<>(), best);
+        List<Integer> got = new ArrayList<>();
+        for (int k = 0; m.h.clique(k) >= 0; k++) {
+            got.add(m.h.clique(k));
+        }
+        Support.due(m + " clique", got, best);
+    }
+
+    private static void allCliques(Support.Mirror m, int from, List<Integer> now, List<Integer> best) {
+        if (now.size() > best.size() || now.size() == best.size() && now.toString().compareTo(best.toString()) != 0
+            && isBefore(now, best)) {
+            best.clear();
+            best.addAll(now);
+        }
+        for (int v = from; v < m.n(); v++) {
+            boolean all = true;
+            for (int u : now) {
+                all &= m.near(u, v);
+            }
+            if (all) {
+                now.add(v);
+                allCliques(m, v + 1, now, best);
+                now.remove(now.size() - 1);
+            }
+        }
+    }
+
+    private static boolean isBefore(List<Integer> a, List<Integer> b) {
+        for (int i = 0; i < a.size(); i++) {
+            if (!a.get(i).equals(b.get(i))) {
+                return a.get(i) < b.get(i);
+            }
+        }
+        return false;
+    }
+
+    /** For each k: takes away whatever has fewer than k joints until nothing does. */
+    private static void bigCores(Support.Mirror m) {
+        int[] best = new int[m.n()];
+        for (int k = 1; k <= 160; k++) {
+            boolean[] gone = new boolean[m.n()];
+            boolean again = true;
+            while (again) {
+                again = false;
+                for (int u = 0; u < m.n(); u++) {
+                    int degree = 0;
+                    for (int v = 0; v < m.n(); v++) {
+                        degree += gone[v] ? 0 : m.between(u, v);
+                    }
+                    if (!gone[u] && degree < k) {
+                        gone[u] = true;
+                        again = true;
+                    }
+                }
+            }
+            for (int u = 0; u < m.n(); u++) {
+                best[u] = gone[u] ? best[u] : k;
+            }
+        }
+        for (int u = 0; u < m.n(); u++) {
+            Support.due(m + " core " + u, m.h.core(u), best[u]);
+        }
+    }
+
     private static void colours(Support.Mirror m) {
         int[] want = new int[m.n()];
         boolean[][] near = new boolean[m.n()][m.n()];
@@ -303,6 +378,35 @@ public final class PartsTest {
         }
     }
 
+    private static boolean isStep(int difference, int steps) {
+        int d = Math.floorMod(difference, 32);
+        return d != 0 && (d <= steps || d >= 32 - steps);
+    }
+
+    /** Of a ring of 32 in which each node is joined to so many next ones: all through node 0, then by 32. */
+    private static long trianglesOf(int steps) {
+        long count = 0;
+        for (int a = 1; a < 32; a++) {
+            for (int b = 1; b < 32; b++) {
+                count += isStep(a, steps) && isStep(b - a, steps) && isStep(b, steps) ? 1 : 0;
+            }
+        }
+        return count * 32 / 6;
+    }
+
+    private static long squaresOf(int steps) {
+        long count = 0;
+        for (int a = 1; a < 32; a++) {
+            for (int b = 1; b < 32; b++) {
+                for (int c = 1; c < 32; c++) {
+                    count += b != a && c != a && c != b && isStep(a, steps) && isStep(b - a, steps) && isStep(c - b, steps)
+                        && isStep(c, steps) ? 1 : 0;
+                }
+            }
+        }
+        return count * 32 / 8;
+    }
+
     private static void fullGraph() {
         GraphHouse h = new GraphHouse();
         for (int i = 0; i < 32; i++) {
@@ -311,6 +415,7 @@ public final class PartsTest {
         for (int i = 0; i < 160; i++) {
             h.arc(i % 32, (i + 1 + i / 32) % 32, 0, 0, 0);
         }
+        Support.due("figures of 32", h.figures(0) + " " + h.figures(1), trianglesOf(5) + " " + squaresOf(5));
         Support.due("ring of 32 with five steps", h.part(0, 31) + " " + h.part(1, 31) + " " + h.core(31) + " "
             + h.clique(5) + " " + h.clique(6) + " " + h.cut(31) + " " + h.bridge(159), "0 0 10 5 -1 false false");
         GraphHouse multi = new GraphHouse();

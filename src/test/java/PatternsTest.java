@@ -9,6 +9,7 @@ public final class PatternsTest {
         fitsByDice();
         longWords();
         deepest();
+        chain();
         Support.finish("PatternsTest");
     }
 
@@ -201,6 +202,20 @@ public final class PatternsTest {
         Support.due("none", h.fits(0, 0), 0);
         Support.retype(h, ".".repeat(60));
         Support.due("pattern", h.pattern() + " " + h.fits(0, 60 % 31) + " " + h.fits(0, 0), "0 60 -1");
+    }
+
+    private static void chain() {
+        GraphHouse h = new GraphHouse();
+        for (int i = 0; i < 32; i++) {
+            h.node(0);
+        }
+        for (int i = 0; i < 31; i++) {
+            h.arc(i, i + 1, 0, 0, i % 2);
+        }
+        Support.retype(h, "(ab)*a");
+        Support.due("31 arcs", h.pattern() + " " + h.fits(0, 31) + " " + h.fits(1, 31) + " " + h.fits(31, 31), "0 31 -1 -1");
+        Support.retype(h, ".*");
+        Support.due("any", h.pattern() + " " + h.fits(0, 31) + " " + h.fits(31, 0) + " " + h.fits(31, 31), "0 31 -1 0");
     }
 
     private static void deepest() {

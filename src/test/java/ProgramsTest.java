@@ -347,6 +347,18 @@ public final class ProgramsTest {
         Support.due("ends", h.state(0) + " " + h.state(5), "0 10");
         Support.due("just so many", h.run(5, 1, 0, 0) + " " + h.state(5), "5 10");
         Support.due("too few", h.run(4, 1, 0, 0) + " " + h.state(5) + " " + h.state(4), "4 999999 8");
+        GraphHouse big = new GraphHouse();
+        for (int i = 0; i < 32; i++) {
+            big.node(i % 26);
+        }
+        for (int i = 0; i < 160; i++) {
+            big.arc(i % 32, (i + 1) % 32, i, 0, 0);
+        }
+        Support.retype(big, "n ; s+d-l*0");
+        Support.due("program", big.program(), 0);
+        Support.due("a round of 32", big.run(1, 4, 0, 0) + " " + big.state(0) + " " + big.state(31), "1 160 155");
+        Support.due("letters of 32", big.letters(0) + " " + big.letters(2), "32 1");
+        Support.illegal("state 32", () -> big.state(32));
         Support.retype(h, "0;r");
         h.program();
         Support.due("never still", h.run(200, 1, 0, 0) + " " + h.state(3), "200 200");
@@ -539,7 +551,7 @@ public final class ProgramsTest {
     private static void lettersByDice() {
         for (int seed = 0; seed < 1500; seed++) {
             Support.Dice d = new Support.Dice(seed);
-            Support.Mirror m = Support.byDice(d, d.from(0, 12), d.below(30), 0, 0, 0);
+            Support.Mirror m = Support.byDice(d, d.from(0, d.below(5) == 0 ? 32 : 12), d.below(d.below(5) == 0 ? 160 : 30), 0, 0, 0);
             Support.retype(m.h, d.below(3) == 0 ? "n;s" : "0;r");
             Support.due("program", m.h.program(), 0);
             int k = d.from(1, 4);

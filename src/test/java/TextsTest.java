@@ -4,6 +4,7 @@ public final class TextsTest {
         typing();
         loading();
         faults();
+        leftovers();
         nothingByHalves();
         prints();
         faultsByDice();
@@ -99,6 +100,28 @@ public final class TextsTest {
         wrong("t 0; #", 4, 0);
         wrong("n a;".repeat(33), 4, 128);
         wrong("na;" + "a0 0 0 0a;".repeat(99) + "###", 1, 993);
+    }
+
+    /** What stood behind THE TEXT before it was wiped is not read. */
+    private static void leftovers() {
+        GraphHouse h = new GraphHouse();
+        Support.retype(h, "n a;   t 0;");
+        Support.retype(h, "n a");
+        Support.due("a ; that was", h.load() + " " + h.fault(0) + " " + h.fault(1), "-4 2 3");
+        Support.retype(h, "n          ");
+        Support.retype(h, "n");
+        Support.due("blanks that were", h.load() + " " + h.fault(0) + " " + h.fault(1), "-4 2 1");
+        Support.retype(h, "w 0 123");
+        Support.retype(h, "w 0 1");
+        Support.due("digits that were", h.load() + " " + h.fault(0) + " " + h.fault(1), "-4 2 5");
+        Support.retype(h, " ".repeat(1000));
+        Support.due("1000 blanks", h.load(), 0);
+        Support.retype(h, "1".repeat(1000));
+        Support.due("1000 digits", h.load() + " " + h.fault(0) + " " + h.fault(1), "-4 3 0");
+        Support.retype(h, "n a;" + " ".repeat(995) + "-");
+        Support.due("a - at the very end", h.load() + " " + h.fault(0) + " " + h.fault(1), "-4 1 999");
+        Support.retype(h, " ".repeat(995) + "n a ;");
+        Support.due("a command at the very end", h.load(), 1);
     }
 
     private static void nothingByHalves() {

@@ -14,6 +14,10 @@ public final class WalksTest {
             Support.Mirror m = Support.byDice(d, d.from(1, 6), d.below(13), low, d.from(1, 6), d.from(0, 9));
             compare(m);
         }
+        for (int seed = 0; seed < 25; seed++) {
+            Support.Dice d = new Support.Dice(seed);
+            compareBig(Support.byDice(d, d.from(15, 32), d.from(40, 160), d.from(-2, 1), 20, 1000000));
+        }
         versions();
         longWay();
         tooMany();
@@ -73,6 +77,78 @@ public final class WalksTest {
                 }
             }
         }
+    }
+
+    /** Up to 32 nodes: ways by the least weights of so many arcs, widths by drawing ways together. */
+    private static void compareBig(Support.Mirror m) {
+        int n = m.n();
+        long[][] d = distances(m);
+        int[][] wide = new int[n][n];
+        for (int i = 0; i < n; i++) {
+            Arrays.fill(wide[i], -1);
+            wide[i][i] = 1000001;
+        }
+        for (int[] a : m.arcs) {
+            if (a != null) {
+                wide[a[0]][a[1]] = Math.max(wide[a[0]][a[1]], a[3]);
+            }
+        }
+        for (int k = 0; k < n; k++) {
+            for (int i = 0; i < n; i++) {
+                for (int j = 0; j < n; j++) {
+                    wide[i][j] = Math.max(wide[i][j], Math.min(wide[i][k], wide[k][j]));
+                }
+            }
+        }
+        for (int t = 0; t < n; t++) {
+            long[][] by = weightsByArcs(m, t);
+            for (int s = 0; s < n; s++) {
+                String what = m + " from " + s + " to " + t + ": ";
+                long want = wanted(d, s, t);
+                Support.due(what + "distance", m.h.distance(s, t), want);
+                Support.due(what + "width", m.h.width(s, t), wide[s][t]);
+                int left = 0;
+                while (left <= n && by[left][s] != want) {
+                    left++;
+                }
+                int u = s;
+                for (int k = 0; want < GraphHouse.NO && k <= n; k++) {
+                    int p = stepOf(m, by, u, left - k);
+                    Support.due(what + "way " + k, m.h.way(s, t, k), p);
+                    u = p < 0 ? u : m.arcs[p][1];
+                }
+                if (s != t && (s + t) % 7 == 0) {
+                    compareShort(m, s, t, what);
+                }
+            }
+        }
+    }
+
+    /** The least weight of walks of exactly k arcs from each node to t. */
+    private static long[][] weightsByArcs(Support.Mirror m, int t) {
+        long[][] by = new long[m.n() + 1][m.n()];
+        for (long[] row : by) {
+            Arrays.fill(row, INF);
+        }
+        by[0][t] = 0;
+        for (int k = 1; k <= m.n(); k++) {
+            for (int[] a : m.arcs) {
+                if (a != null && by[k - 1][a[1]] < INF) {
+                    by[k][a[0]] = Math.min(by[k][a[0]], by[k - 1][a[1]] + a[2]);
+                }
+            }
+        }
+        return by;
+    }
+
+    private static int stepOf(Support.Mirror m, long[][] by, int u, int left) {
+        for (int p = 0; p < 160 && left > 0; p++) {
+            int[] a = m.arcs[p];
+            if (a != null && a[0] == u && by[left - 1][a[1]] < INF && by[left - 1][a[1]] + a[2] == by[left][u]) {
+                return p;
+            }
+        }
+        return -1;
     }
 
     private static long[][] distances(Support.Mirror m) {
