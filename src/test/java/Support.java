@@ -5,6 +5,8 @@ import java.util.List;
 final class Support {
     static int asked = 0;
     static int wrong = 0;
+    /** The words of the document of which the answers are a test. */
+    static String about = "";
 
     interface Call {
         Object go();
@@ -15,7 +17,7 @@ final class Support {
         if (!String.valueOf(got).equals(String.valueOf(want))) {
             wrong++;
             if (wrong <= 20) {
-                System.out.println(what + " answered " + got + ", due is " + want);
+                System.out.println(about + what + " answered " + got + ", due is " + want);
             }
         }
     }
@@ -28,6 +30,42 @@ final class Support {
     /** The call throws exactly an IllegalStateException. */
     static void unready(String what, Call call) {
         due(what, outcome(call), IllegalStateException.class);
+    }
+
+    /** The nearest and the farthest numbers that are out of bounds. */
+    static int[] outside(int low, int high) {
+        return new int[] {Integer.MIN_VALUE, low - 1, high + 1, Integer.MAX_VALUE};
+    }
+
+    /** A house with so many nodes, all of label 0. */
+    static GraphHouse withNodes(int count) {
+        GraphHouse h = new GraphHouse();
+        for (int i = 0; i < count; i++) {
+            h.node(0);
+        }
+        return h;
+    }
+
+    /** Arcs from one node of the row to the next, of weight 1, room 1, kind 0. */
+    static void chain(GraphHouse h, int... nodes) {
+        for (int i = 1; i < nodes.length; i++) {
+            h.arc(nodes[i - 1], nodes[i], 1, 1, 0);
+        }
+    }
+
+    /** A house with the nodes 0 and 1, the arc 0 between them and so many changes, within 485 calls. */
+    static GraphHouse withChanges(int changes) {
+        GraphHouse h = withNodes(2);
+        h.arc(0, 1, 5, 6, 7);
+        retype(h, "w0 5;".repeat(81));
+        while (h.version() + 81 <= changes) {
+            h.load();
+        }
+        h.wipe();
+        while (h.version() < changes) {
+            h.label(0, 0);
+        }
+        return h;
     }
 
     private static Object outcome(Call call) {
