@@ -366,6 +366,11 @@ public final class ChangesEdgesTest {
         Support.due("arc", h.arc(0, 0, 0, 0, 0), GraphHouse.FULL);
         Support.due("no change", h.version() + " " + h.size(1), "162 160");
         Support.illegal("the argument comes first", () -> h.arc(0, 2, 0, 0, 0));
+        Support.illegal("no arc behind the last", () -> h.take(160));
+        Support.illegal("no arc behind the last", () -> h.set(160, 0, 0));
+        Support.illegal("no arc behind the last", () -> h.bridge(160));
+        Support.illegal("no arc behind the last", () -> h.span(160));
+        Support.illegal("no place behind the last", () -> h.told(160, 0));
         Support.due("other changes are done", h.take(159), 163);
         Support.due("one place", h.arc(0, 0, 0, 0, 0), 159);
     }
@@ -380,10 +385,10 @@ public final class ChangesEdgesTest {
     private static void fullAtTheEnd() {
         GraphHouse h = fullHouse();
         Support.retype(h, "w0 5;".repeat(50));
-        while (h.version() < 3950) {
+        for (int i = 0; i < 100 && h.version() < 3950; i++) {
             h.load();
         }
-        while (h.version() < 4000) {
+        for (int i = 0; i < 100 && h.version() < 4000; i++) {
             Support.due("FULL before the end", h.arc(0, 1, 0, 0, 0), GraphHouse.FULL);
             h.set(0, 0, 0);
         }
@@ -551,6 +556,18 @@ public final class ChangesEdgesTest {
         Support.due("1", h.view(1), 1);
         Support.due("NONE", h.view(NONE), 3);
         Support.due("NONE at version 0", new GraphHouse().view(NONE), 0);
+        Support.chain(h, 0, 1, 2);
+        h.take(1);
+        h.label(0, 7);
+        int[] arcs = {0, 0, 0, 0, 1, 2, 1, 1};
+        for (int step = 0; step < 24; step++) {
+            int version = step * 5 % 8;
+            Support.due("forth and back", h.view(version), version);
+            Support.due("its sizes", h.size(0) + " " + h.size(1) + " " + h.size(3), Math.min(version, 3) + " " + arcs[version] + " "
+                + (arcs[version] - 1));
+            Support.due("its last arc", h.told(1, 0), version == 5 ? 1 : GraphHouse.NO);
+            Support.due("its label", version == 0 ? 0 : h.labelOf(0), version == 7 ? 7 : 0);
+        }
     }
 
     private static void viewOfNone() {

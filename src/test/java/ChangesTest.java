@@ -244,10 +244,10 @@ public final class ChangesTest {
         }
         Support.due("full", h.arc(0, 0, 0, 0, 0), GraphHouse.FULL);
         Support.retype(h, "w7 1;".repeat(50));
-        while (h.version() <= 3950) {
+        for (int i = 0; i < 100 && h.version() <= 3950; i++) {
             h.load();
         }
-        while (h.version() < 4000) {
+        for (int i = 0; i < 100 && h.version() < 4000; i++) {
             h.label(0, 3);
         }
         Support.unready("arc", () -> h.arc(0, 0, 0, 0, 0));

@@ -58,13 +58,15 @@ final class Support {
         GraphHouse h = withNodes(2);
         h.arc(0, 1, 5, 6, 7);
         retype(h, "w0 5;".repeat(81));
-        while (h.version() + 81 <= changes) {
+        // bounded, so that a house that makes no changes is told as wrong, and not waited for
+        for (int i = 0; i < 60 && h.version() + 81 <= changes; i++) {
             h.load();
         }
         h.wipe();
-        while (h.version() < changes) {
+        for (int i = 0; i < 81 && h.version() < changes; i++) {
             h.label(0, 0);
         }
+        due("changes", h.version(), changes);
         return h;
     }
 

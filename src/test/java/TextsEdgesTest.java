@@ -144,6 +144,10 @@ public final class TextsEdgesTest {
         bad("w0 +1;", 1, 3);
         bad("w0 1.5;", 1, 4);
         bad("w01;", 2, 3);
+        bad("1234567;", 2, 0);
+        bad("-1234567;", 2, 0);
+        bad("nb1234567;", 2, 2);
+        bad("n1234567;", 2, 1);
     }
 
     private static void blanks() {
