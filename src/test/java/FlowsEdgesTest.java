@@ -33,10 +33,12 @@ public final class FlowsEdgesTest {
         doc.test(terms, "each one is in it if its nodes don't hang together by those before it that are", FlowsEdgesTest::spanParts);
         doc.test(terms, "how many sets of joints there are that join all nodes without a ring", FlowsEdgesTest::counts);
         doc.test(terms, "modulo 1000000007", FlowsEdgesTest::greatCounts);
+        doc.test(terms, "modulo 1000000007", FlowsEdgesTest::countsAtTheModulus);
     }
 
     private static void flowCalls(Sentences doc) {
         doc.test(31, "The value of THE GREATEST FLOW", FlowsEdgesTest::rooms);
+        doc.test(31, "The value of THE GREATEST FLOW", FlowsEdgesTest::oneBehindTheOther);
         doc.test(31, "Illegal argument", FlowsEdgesTest::flowOutside);
         doc.test(31, "also if s is t", FlowsEdgesTest::toItself);
         doc.test(32, "Whether a node is on THE SIDE of s", FlowsEdgesTest::bothEnds);
@@ -125,6 +127,35 @@ public final class FlowsEdgesTest {
         Support.due("one way and one across", h.flow(0, 3), 1000000);
         h.set(3, 1, 0);
         Support.due("across alone", h.flow(0, 3), 1);
+        GraphHouse undone = Support.withNodes(8);
+        Support.chain(undone, 0, 1, 2, 7);
+        Support.chain(undone, 0, 3, 4, 2);
+        Support.chain(undone, 1, 5, 6, 7);
+        Support.due("two ways of four arcs, though one of three would stop them", undone.flow(0, 7), 2);
+        Support.due("both ends are narrow", undone.side(0, 7, 0) + " " + undone.side(0, 7, 1) + " " + undone.side(0, 7, 3),
+            "true false false");
+    }
+
+    /** What was asked before is not told again for other ends. */
+    private static void oneBehindTheOther() {
+        GraphHouse h = Support.withNodes(4);
+        int[][] rooms = {{0, 1, 5}, {0, 2, 7}, {1, 0, 11}, {1, 2, 13}, {2, 0, 300}, {2, 1, 17}, {3, 0, 1000}, {3, 1, 2000}};
+        for (int[] r : rooms) {
+            h.arc(r[0], r[1], 1, r[2], 0);
+        }
+        String first = "";
+        String again = "";
+        for (int i = 0; i < 16; i++) {
+            int s = i / 4;
+            int t = i % 4;
+            if (s != t) {
+                first = first + h.flow(s, t) + "," + h.side(s, t, 3 - s) + "," + h.cost(s, t, 1) + " ";
+                again = h.flow(3 - s, 3 - t) + "," + h.side(3 - s, 3 - t, s) + "," + h.cost(3 - s, 3 - t, 1) + " " + again;
+            }
+        }
+        Support.due("from the first on and from the last on", again, first);
+        Support.due("from 0 to 1, behind one from 2 to 1", h.flow(2, 1) + " " + h.flow(0, 1), "22 12");
+        Support.due("from 2 to 0, behind one from 2 to 1", h.flow(2, 1) + " " + h.flow(2, 0), "22 311");
     }
 
     private static void side() {
@@ -450,6 +481,68 @@ public final class FlowsEdgesTest {
         GraphHouse loop = Support.withNodes(1);
         loop.arc(0, 0, 0, 0, 0);
         Support.due("a node with a loop", loop.trees(), 1);
+    }
+
+    /**
+     * The steps to a graph with so many trees, and so many if its two ends are one node; empty if they are too many. A
+     * joint between both ends (b) adds the latter to the former, a joint on to a new end (h) the former to the latter.
+     */
+    private static String stepsTo(long count, long asOne) {
+        StringBuilder steps = new StringBuilder();
+        long trees = count;
+        long others = asOne;
+        while (trees > 0 && others > 0 && trees != others && steps.length() < 120) {
+            if (trees > others) {
+                steps.append('b');
+                trees -= others;
+            } else {
+                steps.append('h');
+                others -= trees;
+            }
+        }
+        String row = steps.reverse().toString();
+        return trees == 1 && others == 1 && row.replace("b", "").length() < 30 ? row : "";
+    }
+
+    private static long asOne(long count) {
+        long others = count * 618 / 1000;
+        while (stepsTo(count, others).isEmpty()) {
+            others++;
+        }
+        return others;
+    }
+
+    private static GraphHouse laid(String row) {
+        GraphHouse h = Support.withNodes(2);
+        h.arc(0, 1, 0, 0, 0);
+        int end = 1;
+        for (char step : row.toCharArray()) {
+            if (step == 'h') {
+                h.arc(h.node(0), end, 0, 0, 0);
+                end++;
+            } else {
+                h.arc(0, end, 0, 0, 0);
+            }
+        }
+        return h;
+    }
+
+    private static void countsAtTheModulus() {
+        long prime = 1000000007L;
+        long[] counts = {2, 3, 1000, 999999999, prime - 1, prime, prime + 1, 2 * prime - 1, 2 * prime, 2 * prime + 1, 1000 * prime,
+            1000 * prime + 5};
+        for (long count : counts) {
+            Support.due(count + " trees", laid(stepsTo(count, asOne(count))).trees(), count % prime);
+        }
+        // a node on the latest joint: 0 by the modulus as long as the last two nodes are looked at as one
+        long others = asOne(prime);
+        GraphHouse h = laid(stepsTo(prime, others));
+        int end = h.size(0) - 1;
+        h.take(h.size(3));
+        int middle = h.node(0);
+        h.arc(0, middle, 0, 0, 0);
+        h.arc(middle, end, 0, 0, 0);
+        Support.due("both halves of the joint, or one of them", h.trees(), (others + 2 * (prime - others)) % prime);
     }
 
     private static int byPrime(BigInteger n) {

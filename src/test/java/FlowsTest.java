@@ -23,7 +23,9 @@ public final class FlowsTest {
             Support.Dice d = new Support.Dice(seed);
             span(Support.byDice(d, d.from(20, 32), d.from(25, 160), -3, 3, 3));
         }
+        bigFlows();
         bigCosts();
+        bigTrees();
         bigCounts();
         bigPairs();
         greatNumbers();
@@ -90,6 +92,141 @@ public final class FlowsTest {
                 }
             }
         }
+    }
+
+    /** Great graphs: a second way to the greatest flow, by any ways that are open, and to what is open at the end. */
+    private static void bigFlows() {
+        for (int seed = 0; seed < 300; seed++) {
+            Support.Dice d = new Support.Dice(seed);
+            int most = seed % 3 == 0 ? 1 : seed % 3 == 1 ? 4 : 1000000;
+            Support.Mirror m = Support.byDice(d, d.from(8, 32), d.from(12, 160), 0, 1, most);
+            for (int i = 0; i < 6; i++) {
+                int s = i < 3 ? 2 - i : d.below(m.n());
+                int t = i < 3 ? 3 : (s + 1 + d.below(m.n() - 1)) % m.n();
+                int[][] left = new int[m.n()][m.n()];
+                for (int[] a : m.arcs) {
+                    if (a != null) {
+                        left[a[0]][a[1]] += a[3];
+                    }
+                }
+                long value = 0;
+                boolean[] seen = new boolean[m.n()];
+                for (int part = carry(left, seen, s, t, Integer.MAX_VALUE); part > 0; part = carry(left, seen, s, t, Integer.MAX_VALUE)) {
+                    value += part;
+                    seen = new boolean[m.n()];
+                }
+                Support.due(m + " flow " + s + " " + t, m.h.flow(s, t), value);
+                for (int v = 0; v < m.n(); v++) {
+                    Support.due(m + " side " + s + " " + t + " " + v, m.h.side(s, t, v), seen[v]);
+                }
+            }
+        }
+    }
+
+    /** Goes as deep as can be: how much came to t; what was seen stays seen. */
+    private static int carry(int[][] left, boolean[] seen, int u, int t, int most) {
+        seen[u] = true;
+        if (u == t) {
+            return most;
+        }
+        for (int v = 0; v < left.length; v++) {
+            if (!seen[v] && left[u][v] > 0) {
+                int part = carry(left, seen, v, t, Math.min(most, left[u][v]));
+                if (part > 0) {
+                    left[u][v] -= part;
+                    left[v][u] += part;
+                    return part;
+                }
+            }
+        }
+        return 0;
+    }
+
+    /** Great graphs: a second way to the rooted tree, by one ring at a time in a table of arcs. */
+    private static void bigTrees() {
+        for (int seed = 0; seed < 300; seed++) {
+            Support.Dice d = new Support.Dice(seed);
+            int most = seed % 2 == 0 ? 3 : 1000000;
+            Support.Mirror m = Support.byDice(d, d.from(8, 32), d.from(60, 160), -most, most, 1);
+            for (int i = 0; i < 4; i++) {
+                int root = d.below(m.n());
+                long[][] table = new long[m.n()][m.n()];
+                for (long[] row : table) {
+                    java.util.Arrays.fill(row, GraphHouse.NO);
+                }
+                for (int[] a : m.arcs) {
+                    if (a != null && a[0] != a[1]) {
+                        table[a[0]][a[1]] = Math.min(table[a[0]][a[1]], a[2]);
+                    }
+                }
+                Support.due(m + " tree " + root, m.h.tree(root), leastTree(table, root));
+            }
+        }
+    }
+
+    private static long leastTree(long[][] table, int root) {
+        int n = table.length;
+        int[] before = new int[n];
+        for (int v = 0; v < n; v++) {
+            before[v] = v == root ? -1 : 0;
+            for (int u = 0; u < n && v != root; u++) {
+                before[v] = table[u][v] < table[before[v]][v] ? u : before[v];
+            }
+            if (v != root && table[before[v]][v] == GraphHouse.NO) {
+                return GraphHouse.NO;
+            }
+        }
+        List<Integer> ring = ringOf(before);
+        if (!ring.isEmpty()) {
+            return withoutRing(table, root, before, ring);
+        }
+        long sum = 0;
+        for (int v = 0; v < n; v++) {
+            sum += v == root ? 0 : table[before[v]][v];
+        }
+        return sum;
+    }
+
+    private static List<Integer> ringOf(int[] before) {
+        for (int v = 0; v < before.length; v++) {
+            List<Integer> way = new ArrayList<>();
+            for (int x = v; x >= 0 && way.size() <= before.length; x = before[x]) {
+                if (x == v && !way.isEmpty()) {
+                    return way;
+                }
+                way.add(x);
+            }
+        }
+        return new ArrayList<>();
+    }
+
+    /** The ring becomes the node of its first member; the others of it are cut off, and an arc to it takes one away. */
+    private static long withoutRing(long[][] table, int root, int[] before, List<Integer> ring) {
+        List<Integer> kept = new ArrayList<>();
+        long sum = 0;
+        for (int v = 0; v < before.length; v++) {
+            if (!ring.contains(v)) {
+                kept.add(v);
+            } else {
+                sum += table[before[v]][v];
+            }
+        }
+        int n = kept.size();
+        long[][] less = new long[n + 1][n + 1];
+        for (int i = 0; i <= n; i++) {
+            for (int j = 0; j <= n; j++) {
+                less[i][j] = GraphHouse.NO;
+                for (int u : i < n ? List.of(kept.get(i)) : ring) {
+                    for (int v : j < n ? List.of(kept.get(j)) : ring) {
+                        long saved = j < n ? 0 : table[before[v]][v];
+                        boolean there = i != j && table[u][v] != GraphHouse.NO;
+                        less[i][j] = there ? Math.min(less[i][j], table[u][v] - saved) : less[i][j];
+                    }
+                }
+            }
+        }
+        long rest = leastTree(less, kept.indexOf(root));
+        return rest == GraphHouse.NO ? rest : rest + sum;
     }
 
     /** All flows of a small graph, one by one. */

@@ -8,6 +8,7 @@ public final class PartsEdgesTest {
         calls(doc);
         doc.test(42, "How many TRIANGLES (what = 0), SQUARES (1)", PartsEdgesTest::noFigures);
         doc.test(42, "Illegal argument", PartsEdgesTest::figuresOutside);
+        doc.named(42, 42);
         doc.finish("PartsEdgesTest", 24, 30, "PARTS", "THE CORE", "A TRIANGLE");
     }
 

@@ -352,11 +352,6 @@ public final class PartsTest {
             colours(Support.byDice(d, d.from(9, 14), d.from(10, 60), 0, 1, 1));
             colours(Support.byDice(d, d.from(15, 32), d.from(10, 40), 0, 1, 1));
         }
-        for (int seed = 0; seed < 60; seed++) {
-            Support.Dice d = new Support.Dice(seed);
-            Support.Mirror m = Support.byDice(d, d.from(20, 32), 160 - d.below(40), 0, 1, 1);
-            validColours(m);
-        }
         GraphHouse h = new GraphHouse();
         for (int i = 0; i < 18; i++) {
             h.node(0);
@@ -368,14 +363,6 @@ public final class PartsTest {
         }
         Support.due("all of 18", h.clique(17) + " " + h.colour(17) + " " + h.core(3), "17 17 17");
         Support.due("figures of 18", h.figures(0) + " " + h.figures(1), 816 + " " + 3 * 3060);
-    }
-
-    private static void validColours(Support.Mirror m) {
-        for (int u = 0; u < m.n(); u++) {
-            for (int v = 0; v < u; v++) {
-                Support.due("neighbours differ", m.near(u, v) && m.h.colour(u) == m.h.colour(v), false);
-            }
-        }
     }
 
     private static boolean isStep(int difference, int steps) {

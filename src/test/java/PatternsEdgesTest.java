@@ -39,6 +39,7 @@ public final class PatternsEdgesTest {
 
     private static void calls(Sentences doc) {
         doc.test(43, "THE TEXT becomes the pattern (it stays): 0", PatternsEdgesTest::textStays);
+        doc.test(43, "THE TEXT becomes the pattern", PatternsEdgesTest::oneBehindTheOther);
         doc.test(43, "WRONG (the pattern is as it was)", PatternsEdgesTest::asItWas);
         doc.test(43, "More than 60 characters are a 2 at place 60", PatternsEdgesTest::sixty);
         doc.test(43, "which is looked at before all else", PatternsEdgesTest::lengthFirst);
@@ -265,6 +266,23 @@ public final class PatternsEdgesTest {
         Support.due("taken again", h.pattern(), 0);
         Support.due("wiping changes no pattern", h.wipe(), 3);
         Support.due("a, then any number of b", h.fits(0, 0), 1);
+    }
+
+    /** Nothing is left of the pattern before, nor of the text before. */
+    private static void oneBehindTheOther() {
+        GraphHouse h = Support.withNodes(4);
+        for (int v = 0; v < 3; v++) {
+            h.arc(v, v + 1, 0, 0, v);
+        }
+        String[] patterns = {"a|b|c", "abc", "(a|b)*c", "ab", "a", "a*", "a", "(abc)?", "(ab)", "....", "...", "a+b+c+", "a", "|", "a"};
+        String[] dues = {"-1 1 -1 -1", "-1 -1 -1 3", "-1 -1 -1 3", "-1 -1 2 -1", "-1 1 -1 -1", "0 1 -1 -1", "-1 1 -1 -1", "0 -1 -1 3",
+            "-1 -1 2 -1", "-1 -1 -1 -1", "-1 -1 -1 3", "-1 -1 -1 3", "-1 1 -1 -1", "0 -1 -1 -1", "-1 1 -1 -1"};
+        for (int i = 0; i < patterns.length; i++) {
+            Support.retype(h, patterns[i]);
+            Support.due("pattern", h.pattern(), 0);
+            String got = h.fits(0, 0) + " " + h.fits(0, 1) + " " + h.fits(0, 2) + " " + h.fits(0, 3);
+            Support.due(patterns[i] + " as number " + i, got, dues[i]);
+        }
     }
 
     private static void asItWas() {

@@ -518,6 +518,8 @@ public final class ProgramsEdgesTest {
         adopt(h, "3;x+1");
         Support.due("0", h.run(0, 1, 0, 0) + ": " + h.state(0), "0: 3");
         Support.due("200", h.run(200, 1, 0, 0) + ": " + h.state(0), "200: 203");
+        // ends by itself, so that a bound that is not kept is told and not waited for
+        adopt(h, "3;3");
         for (int bad : Support.outside(0, 200)) {
             Support.illegal("rounds " + bad, () -> h.run(bad, 1, 0, 0));
         }

@@ -29,6 +29,7 @@ public final class RanksEdgesTest {
         doc.test(terms, "what is left over goes one by one to the nodes 0, 1, ..", RanksEdgesTest::leftOver);
         doc.test(terms, "SHORTEST walks from s to t have the fewest arcs", RanksEdgesTest::fewestArcs);
         doc.test(terms, "their number is told modulo 1000000007, and how many of them come by a node, likewise", RanksEdgesTest::manyWalks);
+        doc.test(terms, "modulo 1000000007", RanksEdgesTest::walksAtTheModulus);
         doc.test(terms, "m is the number of joints", RanksEdgesTest::loopsCountNothing);
         doc.test(terms, "J(u, v) how many there are between two nodes", RanksEdgesTest::severalJoints);
         doc.test(terms, "D(u) the joints of a node", RanksEdgesTest::loopsCountNothing);
@@ -48,7 +49,7 @@ public final class RanksEdgesTest {
         doc.test(38, "A node's units behind so many ROUNDS (0 .. 40)", RanksEdgesTest::fortyRounds);
         doc.test(38, "Illegal argument", RanksEdgesTest::rankOutside);
         doc.test(39, "what = 0 how many arcs they have (NONE without one)", RanksEdgesTest::withoutOne);
-        doc.test(39, "1 how many there are", RanksEdgesTest::manyWalks);
+        doc.test(39, "1 how many there are", RanksEdgesTest::walksAtTheModulus);
         doc.test(39, "2 how many of them come by node v (s and t themselves, too", RanksEdgesTest::byNodes);
         doc.test(39, "1 and 2 are 0 without one", RanksEdgesTest::withoutOne);
         doc.test(39, "from a node to itself there is one, of no arc)", RanksEdgesTest::toItself);
@@ -207,6 +208,36 @@ public final class RanksEdgesTest {
         Support.due("5 to the 12th is below the modulus", h.shortest(0, 12, 1, 0), 244140625);
         Support.due("5 to the 13th is above it", h.shortest(0, 13, 1, 0), 1220703125 - 1000000007);
         Support.due("the same by another node", h.shortest(0, 13, 2, 6), 1220703125 - 1000000007);
+    }
+
+    /** A house with just so many walks of ten arcs from 0 to 20: by eights, the odd node of a step being the sum so far. */
+    private static GraphHouse withWalks(int count) {
+        GraphHouse h = Support.withNodes(21);
+        for (int step = 1; step <= 10; step++) {
+            int sum = step == 10 ? 20 : 2 * step - 1;
+            int one = step == 10 ? 19 : 2 * step;
+            int oneBefore = step == 10 ? 18 : 2 * step - 2;
+            for (int i = 0; i < 8 && step > 1; i++) {
+                h.arc(2 * step - 3, sum, 0, 0, 0);
+            }
+            for (int i = 0; i < (count >> 30 - 3 * step & 7); i++) {
+                h.arc(oneBefore, sum, 0, 0, 0);
+            }
+            h.arc(oneBefore, one, 0, 0, 0);
+        }
+        return h;
+    }
+
+    private static void walksAtTheModulus() {
+        int prime = 1000000007;
+        for (int count : new int[] {1, 7, 8, 999999999, prime - 1, prime, prime + 1, prime + 9}) {
+            GraphHouse h = withWalks(count);
+            int due = count % prime;
+            Support.due(count + " walks", h.shortest(0, 20, 0, 0) + " " + h.shortest(0, 20, 1, 0), "10 " + due);
+            Support.due("by their ends", h.shortest(0, 20, 2, 0) + " " + h.shortest(0, 20, 2, 20), due + " " + due);
+            Support.due("by both last nodes but one", h.shortest(0, 20, 2, 17) + " " + h.shortest(0, 20, 2, 18),
+                (count - count % 8) % prime + " " + count % 8);
+        }
     }
 
     private static void withoutOne() {

@@ -62,13 +62,18 @@ final class Sentences {
 
     /** All sentences of these promises, and of the terms' paragraphs that begin so, have been named. */
     void finish(String name, int first, int last, String... paragraphs) {
-        for (int promise = first; promise <= last; promise++) {
-            allNamed(promise, texts[promise]);
-        }
+        named(first, last);
         for (String beginning : paragraphs) {
             allNamed(TERMS, paragraph(beginning));
         }
         Support.finish(name);
+    }
+
+    /** All sentences of these promises have been named. */
+    void named(int first, int last) {
+        for (int promise = first; promise <= last; promise++) {
+            allNamed(promise, texts[promise]);
+        }
     }
 
     private String paragraph(String beginning) {
