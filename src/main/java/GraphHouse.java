@@ -1579,6 +1579,9 @@ public final class GraphHouse {
     // ---- flows, costs, pairings
 
     private static final class Flows {
+        /** The first step of carrying, the one before which would be above all rooms, and how many times finer each next one is. */
+        private static final int STEP = 65536;
+        private static final int FINER = 16;
         private int flowFor = NONE;
         private int flowFrom;
         private int flowTo;
@@ -1668,42 +1671,77 @@ public final class GraphHouse {
             return most;
         }
 
+        /**
+         * By steps, each of which carries only where so much goes at once, and the last of which takes what is left.
+         * Without them a graph may need a carrying for each unit. What a step leaves is less than the step for each
+         * arc that hinders it and each node, so that the next one needs some ten thousand carryings at most.
+         */
         long cheapest(Graph g, int s, int t, int wanted) {
             if (wanted > greatest(g, s, t)) {
                 return NO;
             }
-            Arrays.fill(excess, 0);
-            pipes = 0;
-            long sum = 0;
-            for (int p = 0; p < g.top; p++) {
-                if (g.from[p] != NONE) {
-                    sum += layArc(g, p);
-                }
+            long sum = layArcs(g);
+            excess[s] = wanted;
+            excess[t] = -wanted;
+            int before = STEP * FINER;
+            for (int step = STEP; step > 0; step /= FINER) {
+                turnEarners(g.nodes, before, step);
+                carryAll(g.nodes, step);
+                before = step;
             }
-            excess[s] += wanted;
-            excess[t] -= wanted;
-            for (int i = 0; i < MILLION; i++) {
-                int target = nearestLack(g.nodes);
-                if (target == NONE) {
-                    return sum;
-                }
-                sum += carryTo(target);
+            for (int e = 0; e < pipes; e++) {
+                sum += (long) price[e] * filled[e];
             }
             return sum;
         }
 
-        /** What earns is filled at first, so that no ring in what is left does: what it earns. */
-        private long layArc(Graph g, int p) {
-            boolean full = g.weight[p] < 0;
-            if (g.isJoint(p)) {
-                lay(g.from[p], g.to[p], g.weight[p], g.room[p]);
-                if (full) {
-                    filled[pipes - 1] = g.room[p];
-                    excess[g.to[p]] += g.room[p];
-                    excess[g.from[p]] -= g.room[p];
+        /** Loops need no carrying, they are filled if that earns: what it earns. */
+        private long layArcs(Graph g) {
+            Arrays.fill(excess, 0);
+            pipes = 0;
+            long sum = 0;
+            for (int p = 0; p < g.top; p++) {
+                if (g.isJoint(p)) {
+                    lay(g.from[p], g.to[p], g.weight[p], g.room[p]);
+                } else if (g.from[p] != NONE && g.weight[p] < 0) {
+                    sum += (long) g.weight[p] * g.room[p];
                 }
             }
-            return full ? (long) g.weight[p] * g.room[p] : 0L;
+            return sum;
+        }
+
+        /**
+         * Of pipes that let the step before through no ring earns, so there are prices of nodes by which none of these
+         * does; those of the others that let this step through and earn by them are filled, or emptied.
+         */
+        private void turnEarners(int nodes, int before, int step) {
+            Arrays.fill(far, 0L);
+            relaxAll(nodes, before);
+            for (int e = 0; e < pipes; e++) {
+                long more = far[tail[e]] + price[e] - far[head[e]];
+                int room = limit[e] - filled[e];
+                if (more < 0 && room >= step) {
+                    turn(e, room);
+                } else if (more > 0 && filled[e] >= step) {
+                    turn(e, -filled[e]);
+                }
+            }
+        }
+
+        private void turn(int e, int more) {
+            filled[e] += more;
+            excess[head[e]] += more;
+            excess[tail[e]] -= more;
+        }
+
+        private void carryAll(int nodes, int step) {
+            for (int i = 0; i < MILLION; i++) {
+                int target = nearestLack(nodes, step);
+                if (target == NONE) {
+                    return;
+                }
+                carryTo(target);
+            }
         }
 
         private void lay(int u, int v, int weight, int room) {
@@ -1717,38 +1755,42 @@ public final class GraphHouse {
             }
         }
 
-        /** The node with too little that is cheapest to come to from any with too much. */
-        private int nearestLack(int nodes) {
+        /** The node that lacks a step or more and is cheapest to come to from any with so much too much. */
+        private int nearestLack(int nodes, int step) {
             for (int v = 0; v < nodes; v++) {
-                far[v] = excess[v] > 0 ? 0L : FAR;
+                far[v] = excess[v] >= step ? 0L : FAR;
                 via[v] = NONE;
             }
-            boolean again = true;
-            for (int i = 0; i <= nodes && again; i++) {
-                again = false;
-                for (int e = 0; e < pipes; e++) {
-                    again |= relaxPipe(e);
-                }
-            }
+            relaxAll(nodes, step);
             int best = NONE;
             for (int v = 0; v < nodes; v++) {
-                if (excess[v] < 0 && far[v] != FAR && (best == NONE || far[v] < far[best])) {
+                if (excess[v] <= -step && far[v] != FAR && (best == NONE || far[v] < far[best])) {
                     best = v;
                 }
             }
             return best;
         }
 
-        /** A pipe is gone along if it is not full, and backwards if it is not empty. */
-        private boolean relaxPipe(int e) {
+        private void relaxAll(int nodes, int step) {
+            boolean again = true;
+            for (int i = 0; i <= nodes && again; i++) {
+                again = false;
+                for (int e = 0; e < pipes; e++) {
+                    again |= relaxPipe(e, step);
+                }
+            }
+        }
+
+        /** A pipe is gone along if a step more has room in it, and backwards if so much is in it. */
+        private boolean relaxPipe(int e, int step) {
             int u = tail[e];
             int v = head[e];
-            if (filled[e] < limit[e] && far[u] != FAR && far[u] + price[e] < far[v]) {
+            if (limit[e] - filled[e] >= step && far[u] != FAR && far[u] + price[e] < far[v]) {
                 far[v] = far[u] + price[e];
                 via[v] = 2 * e;
                 return true;
             }
-            if (filled[e] > 0 && far[v] != FAR && far[v] - price[e] < far[u]) {
+            if (filled[e] >= step && far[v] != FAR && far[v] - price[e] < far[u]) {
                 far[u] = far[v] - price[e];
                 via[u] = 2 * e + 1;
                 return true;
@@ -1798,7 +1840,7 @@ public final class GraphHouse {
                 }
             }
             for (int i = 0; i < NODES; i++) {
-                int target = nearestLack(g.nodes);
+                int target = nearestLack(g.nodes, 1);
                 if (target == NONE) {
                     return;
                 }

@@ -245,6 +245,15 @@ public final class FlowsEdgesTest {
         h.set(0, 0, -10);
         Support.due("1 where it earns", h.cost(0, 2, 1), -10);
         Support.due("0 earns nothing without a ring", h.cost(0, 2, 0), 0);
+        GraphHouse row = new GraphHouse();
+        for (int label : new int[] {0, 0, 13, 13}) {
+            row.node(label);
+        }
+        for (int v = 0; v < 3; v++) {
+            row.arc(v, v + 1, 5, 2, 0);
+        }
+        Support.due("a pairing leaves both ends alone", row.pairing(0), 1);
+        Support.due("1 behind a pairing, and 2 behind a cost", row.cost(1, 2, 1) + " " + row.cost(0, 3, 2), "5 30");
     }
 
     private static void greatCosts() {

@@ -25,6 +25,10 @@ public final class FlowsTest {
         }
         bigFlows();
         bigCosts();
+        wideCosts();
+        for (int folds = 2; folds <= 39; folds++) {
+            foldedCosts(folds);
+        }
         bigTrees();
         bigCounts();
         bigPairs();
@@ -352,6 +356,142 @@ public final class FlowsTest {
 
     private static int before(Support.Mirror m, int via) {
         return m.arcs[via / 2][via % 2];
+    }
+
+    /** Great rooms and weights: a second way to the cost, by the bits of the rooms. */
+    private static void wideCosts() {
+        int[] rooms = {1, 15, 16, 17, 255, 4096, 65536, 1000000};
+        int[] weights = {0, 2, 1000, 1000000};
+        for (int seed = 0; seed < 320; seed++) {
+            Support.Dice d = new Support.Dice(seed);
+            int low = seed % 3 == 0 ? 0 : -weights[seed % 4];
+            Support.Mirror m = Support.byDice(d, d.from(2, 32), d.from(20, 160), low, weights[seed % 4], rooms[seed / 4 % 8]);
+            int s = d.below(m.n());
+            int t = (s + 1 + d.below(m.n() - 1)) % m.n();
+            int most = (int) m.h.flow(s, t);
+            for (int value : new int[] {most, d.below(most + 1), 0}) {
+                Support.due(m + " cost " + s + " " + t + " " + value, m.h.cost(s, t, value), byBits(m, s, t, value));
+            }
+            Support.due("one more", m.h.cost(s, t, most + 1), GraphHouse.NO);
+        }
+    }
+
+    /**
+     * Rooms grow from none by their bits, from the highest on: all is doubled, then each arc with that bit gets room
+     * for one more, which goes round where that earns. That the value flows earns more than all else: an arc back from t to s.
+     */
+    private static long byBits(Support.Mirror m, int s, int t, int value) {
+        long earned = 100000000L;
+        List<long[]> arcs = new ArrayList<>();
+        arcs.add(new long[] {t, s, -earned, value, 0, 0});
+        for (int[] a : m.arcs) {
+            if (a != null) {
+                arcs.add(new long[] {a[0], a[1], a[2], a[3], 0, 0});
+            }
+        }
+        for (int bit = 30; bit >= 0; bit--) {
+            for (long[] a : arcs) {
+                a[4] *= 2;
+                a[5] *= 2;
+            }
+            for (long[] a : arcs) {
+                if ((a[3] >> bit & 1) != 0) {
+                    a[4]++;
+                    goRound(arcs, a, m.n());
+                }
+            }
+        }
+        long sum = earned * value;
+        for (long[] a : arcs) {
+            sum += a[2] * a[5];
+        }
+        return sum;
+    }
+
+    /** One unit along the arc and back to its begin by the cheapest way, if that earns; of an arc 4 is its room now, 5 its flow. */
+    private static void goRound(List<long[]> arcs, long[] one, int n) {
+        long[] far = new long[n];
+        long[][] via = new long[n][];
+        java.util.Arrays.fill(far, Long.MAX_VALUE / 2);
+        far[(int) one[1]] = 0;
+        for (boolean again = true; again;) {
+            again = false;
+            for (long[] a : arcs) {
+                int u = (int) a[0];
+                int v = (int) a[1];
+                if (a != one && a[5] < a[4] && far[u] < Long.MAX_VALUE / 4 && far[u] + a[2] < far[v]) {
+                    far[v] = far[u] + a[2];
+                    via[v] = a;
+                    again = true;
+                }
+                if (a[5] > 0 && far[v] < Long.MAX_VALUE / 4 && far[v] - a[2] < far[u]) {
+                    far[u] = far[v] - a[2];
+                    via[u] = a;
+                    again = true;
+                }
+            }
+        }
+        int v = (int) one[0];
+        if (far[v] + one[2] >= 0 || far[v] >= Long.MAX_VALUE / 4) {
+            return;
+        }
+        one[5]++;
+        while (v != one[1]) {
+            boolean along = via[v][1] == v;
+            via[v][5] += along ? 1 : -1;
+            v = (int) via[v][along ? 0 : 1];
+        }
+    }
+
+    /**
+     * Each layer goes through the one inside it forth and back again, as often as there are folds, and the weights are
+     * such that each unit costs one more than the one before it, the first nothing: as many ways as there are units.
+     */
+    private static void foldedCosts(int folds) {
+        Support.Dice d = new Support.Dice(folds);
+        List<int[]> arcs = new ArrayList<>();
+        int n = 2;
+        int all = 1;
+        arcs.add(new int[] {0, 1, 0, 1});
+        for (; n < 30 && all <= 1000000 && all * (folds / 2) < 900000 && arcs.size() + 2 * folds <= 157; n += 2) {
+            for (int j = 0; j < folds; j++) {
+                boolean forth = j % 2 == 0;
+                int first = all * ((j + 1) / 2) - (forth ? 0 : 1);
+                arcs.add(new int[] {n, forth ? n - 2 : n - 1, first, all});
+                arcs.add(new int[] {forth ? n - 1 : n - 2, n + 1, forth ? first : all * ((j + 1) / 2), all});
+            }
+            all *= folds;
+        }
+        int[] heights = new int[n];
+        for (int v = 0; v < n && folds % 3 != 2; v++) {
+            heights[v] = d.below(100000);
+        }
+        Support.Mirror m = new Support.Mirror();
+        for (int v = 0; v < n; v++) {
+            m.node(0);
+        }
+        for (int[] a : arcs) {
+            m.arc(a[0], a[1], a[2] + heights[a[1]] - heights[a[0]], a[3], 0);
+        }
+        long up = heights[n - 1] - heights[n - 2];
+        Support.due(folds + " folds", m.h.flow(n - 2, n - 1), all);
+        for (int value : new int[] {0, 1, all / 3, d.below(all), all - 1, all}) {
+            Support.due(folds + " folds, " + value, m.h.cost(n - 2, n - 1, value), value * (value - 1L) / 2 + up * value);
+        }
+        Support.due(folds + " folds, one more", m.h.cost(n - 2, n - 1, all + 1), GraphHouse.NO);
+        foldedRings(m, n, all, up);
+    }
+
+    /** An arc back earns as long as a unit costs less; the value itself goes elsewhere. */
+    private static void foldedRings(Support.Mirror m, int n, int all, long up) {
+        int back = Math.min(1000000, Math.max(1, all / 7 * 5));
+        m.node(0);
+        m.node(0);
+        m.arc(n, n + 1, 3, 10, 0);
+        m.arc(n - 1, n - 2, (int) Math.max(-1000000, -back - up), 1000000, 0);
+        long earned = Math.min(1000000, back + up) - up;
+        long units = Math.min(Math.min(all, 1000000), earned);
+        Support.due(m + " rings", m.h.cost(n, n + 1, 7), 21 + units * (units - 1) / 2 - units * earned);
     }
 
     private static void pairs(Support.Mirror m) {
